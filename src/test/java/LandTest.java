@@ -20,8 +20,11 @@ final class LandTest {
         firesDoNotSpread();
         windCarries();
         smokeSettles();
+        cornersAreCellsToo();
+        lastFuelBurns();
         forecasts();
         forecastsGoByModelAlone();
+        forecastsKnowLines();
         CHECK.end();
     }
 
@@ -312,6 +315,63 @@ final class LandTest {
         CHECK.yes("kept", ward.isKept());
     }
 
+    private static void cornersAreCellsToo() {
+        int[][] corners = {{0, 0, 1, 1}, {7, 0, -1, 1}, {0, 5, 1, -1}, {7, 5, -1, -1}};
+        for (int[] c : corners) {
+            SmokeWard ward = new SmokeWard();
+            ward.light(c[0], c[1], 8);
+            ward.setWind(c[2], c[3], 1);
+            ward.pass(1);
+            CHECK.same("80 less 20, less 3", ward.smoke(c[0], c[1]), 57);
+            CHECK.same("20 less 1", ward.smoke(c[0] + c[2], c[1] + c[3]), 19);
+            CHECK.same("by wind from the corner", ward.fire(c[0] + c[2], c[1] + c[3]), 2);
+            CHECK.same("in x from the corner", ward.fire(c[0] + c[2], c[1]), 1);
+            CHECK.same("in y from the corner", ward.fire(c[0], c[1] + c[3]), 1);
+            CHECK.same("forecast of the corner", ward.forecast(c[0], c[1], 1), ward.worst(c[0], c[1], 1));
+            SmokeWard other = new SmokeWard();
+            other.light(c[0] + c[2], c[1], 8);
+            other.light(c[0], c[1] + 2 * c[3], 8);
+            other.pass(1);
+            CHECK.same("in x into the corner", other.fire(c[0], c[1]), 1);
+            CHECK.same("in y into the edge", other.fire(c[0], c[1] + c[3]), 1);
+            SmokeWard back = new SmokeWard();
+            back.light(c[0] + c[2], c[1] + c[3], 4);
+            back.setWind(-c[2], -c[3], 4);
+            back.pass(1);
+            CHECK.same("by wind into the corner", back.fire(c[0], c[1]), 5);
+            CHECK.yes("smoke into the corner", back.smoke(c[0], c[1]) > 0);
+            back.setWind(0, 0, 0);
+            back.setRain(9);
+            int ahead = back.worst(c[0], c[1], 1);
+            back.pass(1);
+            CHECK.same("as forecast", back.smoke(c[0], c[1]), ahead);
+        }
+    }
+
+    private static void lastFuelBurns() {
+        SmokeWard ward = new SmokeWard();
+        ward.setFuel(3, 2, 1);
+        ward.light(2, 2, 5);
+        ward.pass(1);
+        CHECK.same("fuel of 1 burns", ward.fire(3, 2), 1);
+        ward.pass(1);
+        CHECK.same("and is out", ward.fire(3, 2), 0);
+        CHECK.same("and makes 10", ward.smoke(3, 2), 10);
+    }
+
+    private static void forecastsKnowLines() {
+        SmokeWard ward = new SmokeWard();
+        ward.digLine(0, 0, 0);
+        ward.digLine(3, 2, 1);
+        ward.pass(2);
+        ward.light(1, 0, 9);
+        ward.light(2, 2, 9);
+        CHECK.same("no fire comes to the corner", ward.forecast(0, 0, 3), 0);
+        CHECK.same("nor to the line", ward.forecast(3, 2, 3), 0);
+        CHECK.same("but to others: 20 less 1", ward.forecast(1, 2, 3), 19);
+        CHECK.same("and from these no further", ward.worst(0, 2, 12), 0);
+    }
+
     private static void forecasts() {
         SmokeWard ward = new SmokeWard();
         ward.light(2, 2, 9);
@@ -320,6 +380,7 @@ final class LandTest {
         String before = Picture.of(ward);
         CHECK.same("forecast 1", ward.forecast(2, 2, 1), 92);
         CHECK.same("forecast 2", ward.forecast(2, 2, 2), 88);
+        CHECK.same("worst 1", ward.worst(2, 2, 1), 92);
         CHECK.same("worst 2", ward.worst(2, 2, 2), 92);
         CHECK.same("forecast elsewhere", ward.forecast(7, 5, 12), 0);
         CHECK.same("worst elsewhere", ward.worst(7, 5, 12), 0);

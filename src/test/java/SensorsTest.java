@@ -16,6 +16,7 @@ final class SensorsTest {
         agreementsMustFollow();
         statesAreThoseAheadOfTheHour();
         cellsAreMended();
+        cornersAreMended();
         cellsAreNotMended();
         shares();
         CHECK.end();
@@ -285,6 +286,16 @@ final class SensorsTest {
         // 40 - 10 = 30, less 1 is 29; (200 - 29) * 50 / 150 = 57
         CHECK.same("behind the model", model.smoke(2, 2), 86);
         CHECK.same("not carried in this hour", model.smoke(3, 2), 10);
+    }
+
+    private static void cornersAreMended() {
+        int[][] corners = {{0, 0}, {7, 0}, {0, 5}, {7, 5}};
+        for (int[] corner : corners) {
+            SmokeWard ward = new SmokeWard();
+            ward.addSensor(corner[0], corner[1]);
+            hourOf(ward, 300);
+            CHECK.same("300 by 50 of 150", ward.smoke(corner[0], corner[1]), 100);
+        }
     }
 
     private static void cellsAreNotMended() {

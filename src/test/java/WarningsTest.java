@@ -37,7 +37,7 @@ final class WarningsTest {
         CHECK.thrown(ward, "no cell", Check.INDEX, () -> ward.subscribe(0, 6, 19, 24, 24));
         CHECK.thrown(ward, "no cell", Check.INDEX, () -> ward.subscribe(-1, 0, 20, 0, 0));
         for (int i = 0; i < 12; i++) {
-            CHECK.same("subscribe", ward.subscribe(7, 5, i % 2 == 0 ? 20 : 9999, 0, 23), i);
+            CHECK.same("subscribe", ward.subscribe(7, 5, i % 2 == 0 ? 20 : 9999, 23 * (i % 3 / 2), 23 - i), i);
             CHECK.no("warned at first", ward.isWarned(i));
         }
         CHECK.thrown(ward, "the 13th", Check.STATE, () -> ward.subscribe(0, 0, 20, 0, 0));

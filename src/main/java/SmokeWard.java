@@ -371,17 +371,13 @@ public final class SmokeWard {
                 case ADD_SCHOOL:
                     return schools.enter(act.a, act.b);
                 case PASS:
-                    return letPass(act.a);
+                    for (int i = 0; i < act.a; i++) {
+                        runHour();
+                    }
+                    return hour;
                 default:
                     return 0;
             }
-        }
-
-        private int letPass(int hours) {
-            for (int i = 0; i < hours; i++) {
-                runHour();
-            }
-            return hour;
         }
 
         private void runHour() {

@@ -7,6 +7,7 @@ final class RecordsTest {
         meanOfSmoke();
         keptAndSame();
         sameIsAskedOften();
+        sameAfterAllCalls();
         CHECK.end();
     }
 
@@ -95,5 +96,15 @@ final class RecordsTest {
             CHECK.yes("same", ward.isSame());
         }
         CHECK.yes("kept", ward.isKept());
+    }
+
+    private static void sameAfterAllCalls() {
+        SmokeWard ward = new SmokeWard();
+        ward.addSensor(1, 1);
+        for (int i = 0; i < 255; i++) {
+            ward.read(0, 39 * i);
+            ward.pass(1 + i % 3);
+        }
+        CHECK.yes("same as the 512th call", ward.isSame());
     }
 }

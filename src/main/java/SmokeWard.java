@@ -289,8 +289,12 @@ public final class SmokeWard {
         return now.isLike(again);
     }
 
+    private static boolean isCell(int x, int y) {
+        return x >= 0 && x < WIDTH && y >= 0 && y < HEIGHT;
+    }
+
     private static int placeOf(int x, int y) {
-        if (x < 0 || x >= WIDTH || y < 0 || y >= HEIGHT) {
+        if (!isCell(x, y)) {
             throw new IndexOutOfBoundsException("there is no such cell");
         }
         return y * WIDTH + x;
@@ -541,7 +545,7 @@ public final class SmokeWard {
         }
 
         private void tell(int x, int y, int strength) {
-            if (x < 0 || x >= WIDTH || y < 0 || y >= HEIGHT) {
+            if (!isCell(x, y)) {
                 return;
             }
             int place = y * WIDTH + x;
@@ -557,10 +561,10 @@ public final class SmokeWard {
                 int x = i % WIDTH + windX;
                 int y = i / WIDTH + windY;
                 smoke[i] -= carried;
-                if (x < 0 || x >= WIDTH || y < 0 || y >= HEIGHT) {
-                    smokeBlown += carried;
-                } else {
+                if (isCell(x, y)) {
                     brought[y * WIDTH + x] += carried;
+                } else {
+                    smokeBlown += carried;
                 }
             }
             for (int i = 0; i < CELLS; i++) {

@@ -14,6 +14,12 @@ final class Check {
     }
 
     private int wrong = 0;
+    private String words = "";
+
+    /** What is checked from now on is told with these words ahead. */
+    void under(String newWords) {
+        words = newWords + ": ";
+    }
 
     void same(String what, long got, long due) {
         if (got != due) {
@@ -34,22 +40,27 @@ final class Check {
     }
 
     void yes(String what, boolean got) {
-        if (!got) {
-            tell(what, "false", "true");
-        }
+        same(what, Boolean.toString(got), "true");
     }
 
     void no(String what, boolean got) {
-        if (got) {
-            tell(what, "true", "false");
-        }
+        same(what, Boolean.toString(got), "false");
     }
 
-    /** Also looks that a call that throws changed nothing that the face tells. */
-    void thrown(SmokeWard ward, String what, String due, Call call) {
-        String before = Picture.of(ward);
+    void thrown(String what, String due, Call call) {
         same(what + " throws", nameOfThrown(call), due);
-        same(what + " changes nothing", Picture.of(ward), before);
+    }
+
+    /** Of two objects made alike, one is used: both are still alike, and so they go on. */
+    void unchanged(String what, Made.Maker maker, Made.Use use) {
+        SmokeWard used = maker.make();
+        String name = nameOfThrown(() -> use.of(used));
+        String[] got = Picture.ofAllAndNext(used).split("\n");
+        String[] due = Picture.ofAllAndNext(maker.make()).split("\n");
+        same(what + " (threw " + name + ") left lines", got.length, due.length);
+        for (int i = 0; i < Math.min(got.length, due.length); i++) {
+            same(what + " (threw " + name + ") left in line " + i, got[i], due[i]);
+        }
     }
 
     static String nameOfThrown(Call call) {
@@ -73,6 +84,6 @@ final class Check {
         if (wrong > SHOWN) {
             return;
         }
-        System.out.println(what + ": " + got + ", due is " + due);
+        System.out.println(words + what + ": " + got + ", due is " + due);
     }
 }

@@ -39,11 +39,11 @@ final class HoursTest {
         CHECK.same("pass(1)", ward.pass(1), 1);
         CHECK.same("pass(24)", ward.pass(24), 25);
         CHECK.same("hour", ward.hour(), 25);
-        CHECK.thrown(ward, "pass(0)", Check.ARGUMENT, () -> ward.pass(0));
-        CHECK.thrown(ward, "pass(25)", Check.ARGUMENT, () -> ward.pass(25));
-        CHECK.thrown(ward, "pass(-1)", Check.ARGUMENT, () -> ward.pass(-1));
-        CHECK.thrown(ward, "pass(greatest)", Check.ARGUMENT, () -> ward.pass(Integer.MAX_VALUE));
-        CHECK.thrown(ward, "pass(least)", Check.ARGUMENT, () -> ward.pass(Integer.MIN_VALUE));
+        CHECK.thrown("pass(0)", Check.ARGUMENT, () -> ward.pass(0));
+        CHECK.thrown("pass(25)", Check.ARGUMENT, () -> ward.pass(25));
+        CHECK.thrown("pass(-1)", Check.ARGUMENT, () -> ward.pass(-1));
+        CHECK.thrown("pass(greatest)", Check.ARGUMENT, () -> ward.pass(Integer.MAX_VALUE));
+        CHECK.thrown("pass(least)", Check.ARGUMENT, () -> ward.pass(Integer.MIN_VALUE));
     }
 
     private static void hoursEnd() {
@@ -52,11 +52,11 @@ final class HoursTest {
             ward.pass(24);
         }
         CHECK.same("hour after 41 days", ward.hour(), 984);
-        CHECK.thrown(ward, "pass(16) at 984", Check.STATE, () -> ward.pass(16));
-        CHECK.thrown(ward, "pass(25) at 984", Check.ARGUMENT, () -> ward.pass(25));
+        CHECK.thrown("pass(16) at 984", Check.STATE, () -> ward.pass(16));
+        CHECK.thrown("pass(25) at 984", Check.ARGUMENT, () -> ward.pass(25));
         CHECK.same("pass(15) at 984", ward.pass(15), 999);
-        CHECK.thrown(ward, "pass(1) at 999", Check.STATE, () -> ward.pass(1));
-        CHECK.thrown(ward, "pass(0) at 999", Check.ARGUMENT, () -> ward.pass(0));
+        CHECK.thrown("pass(1) at 999", Check.STATE, () -> ward.pass(1));
+        CHECK.thrown("pass(0) at 999", Check.ARGUMENT, () -> ward.pass(0));
         CHECK.same("hour", ward.hour(), 999);
     }
 }

@@ -62,9 +62,7 @@ final class RecordsTest {
             ward.read(2, 40 * i);
             ward.pass(1 + i);
             CHECK.yes("kept", ward.isKept());
-            String before = Picture.of(ward);
             CHECK.yes("same", ward.isSame());
-            CHECK.same("nothing changes by it", Picture.of(ward), before);
         }
         CHECK.yes("something was mended", ward.mended() != 0);
         CHECK.yes("something was blown", ward.blown() > 0);

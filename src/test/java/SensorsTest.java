@@ -50,12 +50,12 @@ final class SensorsTest {
             CHECK.same("addSensor", ward.addSensor(7, 5), i);
             state(ward, "new", i, '+', 50);
         }
-        CHECK.thrown(ward, "the 11th", Check.STATE, () -> ward.addSensor(0, 0));
-        CHECK.thrown(ward, "the 11th at no cell", Check.INDEX, () -> ward.addSensor(8, 0));
+        CHECK.thrown("the 11th", Check.STATE, () -> ward.addSensor(0, 0));
+        CHECK.thrown("the 11th at no cell", Check.INDEX, () -> ward.addSensor(8, 0));
         SmokeWard none = new SmokeWard();
         int[][] cells = {{-1, 0}, {8, 0}, {0, -1}, {0, 6}};
         for (int[] cell : cells) {
-            CHECK.thrown(none, "addSensor at no cell", Check.INDEX, () -> none.addSensor(cell[0], cell[1]));
+            CHECK.thrown("addSensor at no cell", Check.INDEX, () -> none.addSensor(cell[0], cell[1]));
         }
         CHECK.same("still the first", none.addSensor(0, 0), 0);
     }
@@ -64,10 +64,10 @@ final class SensorsTest {
         SmokeWard ward = withSensors(2);
         int[] numbers = {-1, 2, 10, Integer.MAX_VALUE, Integer.MIN_VALUE};
         for (int number : numbers) {
-            CHECK.thrown(ward, "read " + number, Check.INDEX, () -> ward.read(number, -1));
-            CHECK.thrown(ward, "trust " + number, Check.INDEX, () -> ward.trust(number));
-            CHECK.thrown(ward, "stateOf " + number, Check.INDEX, () -> ward.stateOf(number));
-            CHECK.thrown(ward, "judged " + number, Check.INDEX, () -> ward.judged(number));
+            CHECK.thrown("read " + number, Check.INDEX, () -> ward.read(number, -1));
+            CHECK.thrown("trust " + number, Check.INDEX, () -> ward.trust(number));
+            CHECK.thrown("stateOf " + number, Check.INDEX, () -> ward.stateOf(number));
+            CHECK.thrown("judged " + number, Check.INDEX, () -> ward.judged(number));
         }
     }
 
@@ -77,8 +77,8 @@ final class SensorsTest {
         CHECK.same("second", ward.read(0, 9999), 2);
         CHECK.same("first anew", ward.read(2, 40), 2);
         CHECK.same("third", ward.read(1, 20), 3);
-        CHECK.thrown(ward, "read -1", Check.ARGUMENT, () -> ward.read(0, -1));
-        CHECK.thrown(ward, "read 10000", Check.ARGUMENT, () -> ward.read(0, 10000));
+        CHECK.thrown("read -1", Check.ARGUMENT, () -> ward.read(0, -1));
+        CHECK.thrown("read 10000", Check.ARGUMENT, () -> ward.read(0, 10000));
         CHECK.same("the last value counts", ward.judged(0), 30);
         ward.pass(1);
         CHECK.same("first of the next hour", ward.read(1, 5), 1);
@@ -86,17 +86,17 @@ final class SensorsTest {
 
     private static void neighboursTell() {
         SmokeWard ward = withSensors(4);
-        CHECK.thrown(ward, "nobody has read", Check.UNSUPPORTED, () -> ward.judged(0));
+        CHECK.thrown("nobody has read", Check.UNSUPPORTED, () -> ward.judged(0));
         ward.read(1, 10);
         ward.read(2, 15);
-        CHECK.thrown(ward, "this one has not", Check.UNSUPPORTED, () -> ward.judged(0));
-        CHECK.thrown(ward, "one neighbour", Check.UNSUPPORTED, () -> ward.judged(1));
+        CHECK.thrown("this one has not", Check.UNSUPPORTED, () -> ward.judged(0));
+        CHECK.thrown("one neighbour", Check.UNSUPPORTED, () -> ward.judged(1));
         ward.read(0, 500);
         CHECK.same("12 and a half, cut", ward.judged(0), 12);
         ward.read(3, 2);
         CHECK.same("of three", ward.judged(0), 9);
         ward.pass(1);
-        CHECK.thrown(ward, "gone with the hour", Check.UNSUPPORTED, () -> ward.judged(0));
+        CHECK.thrown("gone with the hour", Check.UNSUPPORTED, () -> ward.judged(0));
     }
 
     private static void neighboursAreNear() {
@@ -330,7 +330,7 @@ final class SensorsTest {
 
     private static void shares() {
         SmokeWard ward = new SmokeWard();
-        CHECK.thrown(ward, "trustShare without sensors", Check.ARITHMETIC, () -> ward.trustShare());
+        CHECK.thrown("trustShare without sensors", Check.ARITHMETIC, () -> ward.trustShare());
         ward.addSensor(0, 0);
         CHECK.same("one of one", ward.trustShare(), 1.0f);
         SmokeWard six = withOneLeftOut();

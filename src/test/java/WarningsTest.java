@@ -28,35 +28,35 @@ final class WarningsTest {
 
     private static void subscribersAreAdded() {
         SmokeWard ward = new SmokeWard();
-        CHECK.thrown(ward, "bound 19", Check.ARGUMENT, () -> ward.subscribe(0, 0, 19, 0, 0));
-        CHECK.thrown(ward, "bound 10000", Check.ARGUMENT, () -> ward.subscribe(0, 0, 10000, 0, 0));
-        CHECK.thrown(ward, "from -1", Check.ARGUMENT, () -> ward.subscribe(0, 0, 20, -1, 0));
-        CHECK.thrown(ward, "from 24", Check.ARGUMENT, () -> ward.subscribe(0, 0, 20, 24, 0));
-        CHECK.thrown(ward, "till -1", Check.ARGUMENT, () -> ward.subscribe(0, 0, 20, 0, -1));
-        CHECK.thrown(ward, "till 24", Check.ARGUMENT, () -> ward.subscribe(0, 0, 20, 0, 24));
-        CHECK.thrown(ward, "no cell", Check.INDEX, () -> ward.subscribe(0, 6, 19, 24, 24));
-        CHECK.thrown(ward, "no cell", Check.INDEX, () -> ward.subscribe(-1, 0, 20, 0, 0));
+        CHECK.thrown("bound 19", Check.ARGUMENT, () -> ward.subscribe(0, 0, 19, 0, 0));
+        CHECK.thrown("bound 10000", Check.ARGUMENT, () -> ward.subscribe(0, 0, 10000, 0, 0));
+        CHECK.thrown("from -1", Check.ARGUMENT, () -> ward.subscribe(0, 0, 20, -1, 0));
+        CHECK.thrown("from 24", Check.ARGUMENT, () -> ward.subscribe(0, 0, 20, 24, 0));
+        CHECK.thrown("till -1", Check.ARGUMENT, () -> ward.subscribe(0, 0, 20, 0, -1));
+        CHECK.thrown("till 24", Check.ARGUMENT, () -> ward.subscribe(0, 0, 20, 0, 24));
+        CHECK.thrown("no cell", Check.INDEX, () -> ward.subscribe(0, 6, 19, 24, 24));
+        CHECK.thrown("no cell", Check.INDEX, () -> ward.subscribe(-1, 0, 20, 0, 0));
         for (int i = 0; i < 12; i++) {
             CHECK.same("subscribe", ward.subscribe(7, 5, i % 2 == 0 ? 20 : 9999, 23 * (i % 3 / 2), 23 - i), i);
             CHECK.no("warned at first", ward.isWarned(i));
         }
-        CHECK.thrown(ward, "the 13th", Check.STATE, () -> ward.subscribe(0, 0, 20, 0, 0));
-        CHECK.thrown(ward, "the 13th, wrong", Check.ARGUMENT, () -> ward.subscribe(0, 0, 20, 0, 24));
-        CHECK.thrown(ward, "the 13th nowhere", Check.INDEX, () -> ward.subscribe(8, 0, 20, 0, 24));
+        CHECK.thrown("the 13th", Check.STATE, () -> ward.subscribe(0, 0, 20, 0, 0));
+        CHECK.thrown("the 13th, wrong", Check.ARGUMENT, () -> ward.subscribe(0, 0, 20, 0, 24));
+        CHECK.thrown("the 13th nowhere", Check.INDEX, () -> ward.subscribe(8, 0, 20, 0, 24));
     }
 
     private static void schoolsAreAdded() {
         SmokeWard ward = new SmokeWard();
-        CHECK.thrown(ward, "bound 19", Check.ARGUMENT, () -> ward.addSchool(0, 0, 19));
-        CHECK.thrown(ward, "bound 10000", Check.ARGUMENT, () -> ward.addSchool(0, 0, 10000));
-        CHECK.thrown(ward, "no cell", Check.INDEX, () -> ward.addSchool(0, -1, 19));
+        CHECK.thrown("bound 19", Check.ARGUMENT, () -> ward.addSchool(0, 0, 19));
+        CHECK.thrown("bound 10000", Check.ARGUMENT, () -> ward.addSchool(0, 0, 10000));
+        CHECK.thrown("no cell", Check.INDEX, () -> ward.addSchool(0, -1, 19));
         for (int i = 0; i < 6; i++) {
             CHECK.same("addSchool", ward.addSchool(7, 5, i % 2 == 0 ? 20 : 9999), i);
             CHECK.yes("open at first", ward.isOpen(i));
         }
-        CHECK.thrown(ward, "the 7th", Check.STATE, () -> ward.addSchool(0, 0, 20));
-        CHECK.thrown(ward, "the 7th, wrong", Check.ARGUMENT, () -> ward.addSchool(0, 0, 19));
-        CHECK.thrown(ward, "the 7th nowhere", Check.INDEX, () -> ward.addSchool(0, 6, 19));
+        CHECK.thrown("the 7th", Check.STATE, () -> ward.addSchool(0, 0, 20));
+        CHECK.thrown("the 7th, wrong", Check.ARGUMENT, () -> ward.addSchool(0, 0, 19));
+        CHECK.thrown("the 7th nowhere", Check.INDEX, () -> ward.addSchool(0, 6, 19));
     }
 
     private static void numbersThatAreNot() {
@@ -68,11 +68,11 @@ final class WarningsTest {
         CHECK.same("warnings", ward.warnings(), 1);
         int[] numbers = {-1, 1, 12, Integer.MAX_VALUE, Integer.MIN_VALUE};
         for (int number : numbers) {
-            CHECK.thrown(ward, "isWarned " + number, Check.INDEX, () -> ward.isWarned(number));
-            CHECK.thrown(ward, "isOpen " + number, Check.INDEX, () -> ward.isOpen(number));
-            CHECK.thrown(ward, "warnedAt " + number, Check.INDEX, () -> ward.warnedAt(number));
-            CHECK.thrown(ward, "warnedWhom " + number, Check.INDEX, () -> ward.warnedWhom(number));
-            CHECK.thrown(ward, "warnedBy " + number, Check.INDEX, () -> ward.warnedBy(number));
+            CHECK.thrown("isWarned " + number, Check.INDEX, () -> ward.isWarned(number));
+            CHECK.thrown("isOpen " + number, Check.INDEX, () -> ward.isOpen(number));
+            CHECK.thrown("warnedAt " + number, Check.INDEX, () -> ward.warnedAt(number));
+            CHECK.thrown("warnedWhom " + number, Check.INDEX, () -> ward.warnedWhom(number));
+            CHECK.thrown("warnedBy " + number, Check.INDEX, () -> ward.warnedBy(number));
         }
     }
 

@@ -1,0 +1,84 @@
+import java.io.IOException;
+import java.nio.file.Files;
+import java.nio.file.Path;
+import java.util.BitSet;
+import java.util.LinkedHashMap;
+import java.util.Map;
+
+/**
+ * Tests that stand each under the words of ../shared/DOC.md that they hold the program to. It also tells which words
+ * of the document no test stands under.
+ */
+final class Sentences {
+    private static final Path DOCUMENT = Path.of("../shared/DOC.md");
+    private static final String SIGNATURE = "^`[^`]*`: ";
+
+    final Check check = new Check();
+    private final Map<String, String> texts = new LinkedHashMap<>();
+    private final Map<String, BitSet> held = new LinkedHashMap<>();
+    private String section = "";
+
+    Sentences() throws IOException {
+        for (String part : Files.readString(DOCUMENT).split("(?m)^#+ ")) {
+            int end = part.indexOf('\n');
+            if (end > 0) {
+                // The signatures are FaceTest's.
+                String text = part.substring(end).replaceAll("\\s+", " ").strip().replaceFirst(SIGNATURE, "");
+                texts.put(part.substring(0, end).strip(), text);
+                held.put(part.substring(0, end).strip(), new BitSet());
+            }
+        }
+    }
+
+    /** The tests to come stand under words of this section. */
+    void in(String heading) {
+        section = heading;
+        check.under(heading);
+        check.yes("the document has this section", texts.containsKey(heading));
+    }
+
+    void hold(String words, Runnable test) {
+        check.under(section + ": \"" + words + "\"");
+        mark(words);
+        try {
+            test.run();
+        } catch (RuntimeException e) {
+            check.same("the test", "ended by " + e, "ended");
+        }
+    }
+
+    /** Words that name nothing that a call could answer. */
+    void leave(String words) {
+        check.under(section);
+        mark(words);
+    }
+
+    private void mark(String words) {
+        String text = texts.getOrDefault(section, "");
+        int at = text.indexOf(words);
+        check.yes("the document has the words \"" + words + "\"", at >= 0);
+        while (at >= 0) {
+            held.get(section).set(at, at + words.length());
+            at = text.indexOf(words, at + 1);
+        }
+    }
+
+    /** Every word of these sections has been marked. */
+    void holdAll(String headingPattern) {
+        for (String heading : texts.keySet()) {
+            if (heading.matches(headingPattern)) {
+                check.under(heading);
+                check.same("words without a test", unmarked(heading), "");
+            }
+        }
+    }
+
+    private String unmarked(String heading) {
+        StringBuilder rest = new StringBuilder();
+        String text = texts.get(heading);
+        for (int i = 0; i < text.length(); i++) {
+            rest.append(held.get(heading).get(i) ? ' ' : text.charAt(i));
+        }
+        return rest.toString().replaceAll("\\s+", " ").strip();
+    }
+}

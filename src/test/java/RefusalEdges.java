@@ -24,17 +24,6 @@ final class RefusalEdges {
             firstOfWarnings();
             firstOfHours();
         });
-        sentences.leave("Ahead of the calls `setFuel`, `light`, `setWind`, `setRain`, `digLine` "
-            + "the interface says: ---- the land.");
-        sentences.leave("Ahead of the calls `addSensor`, `read`, `trust`, `stateOf`, `judged` "
-            + "the interface says: ---- sensors.");
-        sentences.leave("Ahead of the calls `subscribe`, `addSchool`, `isOpen`, `isWarned` "
-            + "the interface says: ---- warnings.");
-        sentences.leave("Ahead of the calls `pass`, `hour` the interface says: ---- hours.");
-        sentences.leave("Ahead of the calls `fuel`, `fire`, `smoke`, `hasLine`, `left`, `forecast`, `worst` "
-            + "the interface says: ---- what there is.");
-        sentences.leave("Ahead of the calls `warnings`, `warnedAt`, `warnedWhom`, `warnedBy`, `closings`, `made`, `blown`, "
-            + "`settled`, `mended`, `trustShare`, `meanSmoke`, `isKept`, `isSame` the interface says: ---- records.");
     }
 
     private void refused(String what, String due, Made.Maker maker, Made.Use use) {

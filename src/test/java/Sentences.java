@@ -11,7 +11,6 @@ import java.util.Map;
  */
 final class Sentences {
     private static final Path DOCUMENT = Path.of("../shared/DOC.md");
-    private static final String SIGNATURE = "^`[^`]*`: ";
 
     final Check check = new Check();
     private final Map<String, String> texts = new LinkedHashMap<>();
@@ -22,9 +21,7 @@ final class Sentences {
         for (String part : Files.readString(DOCUMENT).split("(?m)^#+ ")) {
             int end = part.indexOf('\n');
             if (end > 0) {
-                // The signatures are FaceTest's.
-                String text = part.substring(end).replaceAll("\\s+", " ").strip().replaceFirst(SIGNATURE, "");
-                texts.put(part.substring(0, end).strip(), text);
+                texts.put(part.substring(0, end).strip(), part.substring(end).replaceAll("\\s+", " ").strip());
                 held.put(part.substring(0, end).strip(), new BitSet());
             }
         }
@@ -35,6 +32,15 @@ final class Sentences {
         section = heading;
         check.under(heading);
         check.yes("the document has this section", texts.containsKey(heading));
+    }
+
+    /** What the document says in this section, in one line. */
+    String text() {
+        return texts.getOrDefault(section, "");
+    }
+
+    int count(String headingPattern) {
+        return (int) texts.keySet().stream().filter(heading -> heading.matches(headingPattern)).count();
     }
 
     void hold(String words, Runnable test) {
@@ -54,7 +60,7 @@ final class Sentences {
     }
 
     private void mark(String words) {
-        String text = texts.getOrDefault(section, "");
+        String text = text();
         int at = text.indexOf(words);
         check.yes("the document has the words \"" + words + "\"", at >= 0);
         while (at >= 0) {
@@ -63,13 +69,11 @@ final class Sentences {
         }
     }
 
-    /** Every word of these sections has been marked. */
-    void holdAll(String headingPattern) {
+    /** Every word of the document has been marked. */
+    void holdAll() {
         for (String heading : texts.keySet()) {
-            if (heading.matches(headingPattern)) {
-                check.under(heading);
-                check.same("words without a test", unmarked(heading), "");
-            }
+            check.under(heading);
+            check.same("words without a test", unmarked(heading), "");
         }
     }
 
